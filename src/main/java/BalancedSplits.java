@@ -18,6 +18,9 @@ public final class BalancedSplits {
     private static final int NO_FIT = -10;
     private static final int NOWHERE = -1;
 
+    // Above every OVER and every CUT that there can be.
+    private static final int WORST = 2000000000;
+
     // Each level has fewer nodes than the one above and none is made of SMALL or fewer: 35 at most.
     private static final int MAX_LEVELS = 40;
 
@@ -608,26 +611,23 @@ public final class BalancedSplits {
             for (int node = 0; node < graph.size; node++) {
                 holders[node] = node;
             }
-            boolean more = true;
-            while (more && count < MAX_LEVELS) {
-                more = addNext(graph, k, scratch);
+            for (int next = 1; next < MAX_LEVELS && makeLevel(next, graph, k, scratch); next++) {
+                count = next + 1;
             }
         }
 
-        private boolean addNext(Graph graph, int k, Graph scratch) {
-            int last = count - 1;
-            if (size[last] <= SMALL) {
+        private boolean makeLevel(int l, Graph graph, int k, Graph scratch) {
+            if (size[l - 1] <= SMALL) {
                 return false;
             }
-            drawInto(last, graph, scratch);
+            drawInto(l - 1, graph, scratch);
             if (!joinAll(scratch, k)) {
                 return false;
             }
-            size[count] = numberJoined(scratch.size);
+            size[l] = numberJoined(scratch.size);
             for (int node = 0; node < graph.size; node++) {
-                holders[count * MAX_NODES + node] = number[holder(last, node)];
+                holders[l * MAX_NODES + node] = number[holder(l - 1, node)];
             }
-            count++;
             return true;
         }
 
@@ -707,13 +707,13 @@ public final class BalancedSplits {
         private final int[] tried = new int[MAX_NODES];
         private final int[] best = new int[MAX_NODES];
         private final int[] sum = new int[MAX_PARTS];
-        private int bestOver = Integer.MAX_VALUE;
-        private int bestCut = Integer.MAX_VALUE;
+        private int bestOver = WORST;
+        private int bestCut = WORST;
 
         void findBest(Split split) {
             Arrays.fill(sum, 0);
-            bestOver = Integer.MAX_VALUE;
-            bestCut = Integer.MAX_VALUE;
+            bestOver = WORST;
+            bestCut = WORST;
             tryFrom(split, 0, 0, split.graph.total());
             System.arraycopy(best, 0, split.home, 0, split.graph.size);
         }
@@ -781,7 +781,9 @@ public final class BalancedSplits {
 
         private boolean doPass(Split split) {
             split.recount();
-            Arrays.fill(free, true);
+            for (int node = 0; node < MAX_NODES; node++) {
+                free[node] = true;
+            }
             keepBest(split);
             boolean better = false;
             for (int step = 0; step < split.graph.size && findNext(split); step++) {
@@ -860,8 +862,7 @@ public final class BalancedSplits {
 
         void find(Split split) {
             nodes = split.graph.size;
-            Arrays.fill(inside, false);
-            countOpen(split);
+            start(split);
             for (int step = 0; step < nodes; step++) {
                 int node = busiest(split.graph);
                 if (open[node] > 0) {
@@ -877,9 +878,10 @@ public final class BalancedSplits {
             return split.graph.arcOf(a, b) > 0 && split.home[a] != split.home[b];
         }
 
-        private void countOpen(Split split) {
-            Arrays.fill(open, 0);
+        private void start(Split split) {
             for (int a = 0; a < nodes; a++) {
+                inside[a] = false;
+                open[a] = 0;
                 for (int b = 0; b < nodes; b++) {
                     if (isCut(split, a, b)) {
                         open[a]++;

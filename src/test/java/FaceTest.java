@@ -89,7 +89,7 @@ public final class FaceTest {
         String code = text.replaceAll("(?s)/\\*.*?\\*/", "").replaceAll("//[^\n]*", "");
         for (String word : List.of("throw", "throws", "try", "catch", "finally", "synchronized", "assert",
                 "package", "Random", "System\\.(?!arraycopy)", "Thread", "Exact", "protected", "Object",
-                "double", "float")) {
+                "double", "float", "Integer", "Long")) {
             CHECK.holds("no " + word, !Pattern.compile("\\b" + word + "\\b|" + word + "\\(").matcher(code).find());
         }
         CHECK.holds("no lambda, no method reference", !code.contains("->") && !code.contains("::"));

@@ -34,6 +34,7 @@ public final class PromisesTest {
         separator();
         count();
         fullLoad();
+        everyCallOnForty();
         CHECK.end();
     }
 
@@ -770,5 +771,45 @@ public final class PromisesTest {
         x.bound(1, 0, 39);
         due("17 a star cut off", x.run(), 1);
         due("11 the same", x.cut(), 1);
+    }
+
+    /** Forty nodes, an arc from each to the next three, and every call at its last index. */
+    private static void everyCallOnForty() {
+        BalancedSplits x = ones(40);
+        for (int i = 0; i < 40; i++) {
+            for (int far = 1; far <= 3; far++) {
+                x.arc(i, (i + far) % 40, 4 - far);
+            }
+        }
+        x.parts(4);
+        due("24 arcs", x.count(2), 120);
+        due("14 arcs", x.level(0, 1), 120);
+        due("14 sum", x.level(0, 2), 240);
+        // The limit is 40 / 8 = 5: pairs, then fours, then none.
+        due("24 levels", x.count(3), 3);
+        due("14 fours", x.level(2, 0), 10);
+        due("15 the last node", x.inLevel(2, 39), 9);
+        due("16 the last four", x.levelOf(2, 9, -1), 4);
+        due("16 the arcs on to the first", x.levelOf(2, 9, 0), 3 + 2 + 1 + 2 + 1 + 1);
+        due("8 neighbours", x.of(39, 3), 6);
+        due("19 grown by turns", x.grow(), 240);
+        dueParts("19", x, 0, 1, 2, 3, 0, 1, 2, 3, 0, 1, 2, 3, 0, 1, 2, 3, 0, 1, 2, 3,
+                0, 1, 2, 3, 0, 1, 2, 3, 0, 1, 2, 3, 0, 1, 2, 3, 0, 1, 2, 3);
+        due("8 volume", x.of(39, 2), 3);
+        due("24 volumes", x.count(5), 120);
+        due("13 gain", x.gain(39, 0), 3 + 1);
+        CHECK.holds("18 better", x.refine() > 0);
+        due("20 no alpha", x.stream(LOW, 0), 0);
+        CHECK.holds("21 the last", x.order(HIGH, 39) >= 0 && x.order(HIGH, 39) < 40);
+        due("22 too many", x.exact(), TURN);
+        for (int p = 0; p < 4; p++) {
+            x.bound(p, 10, 10);
+        }
+        due("12 all in one", x.over(), 60);
+        due("17 four runs of ten", x.run(), 40);
+        due("23 three for each of four borders", x.count(4), 12);
+        CHECK.holds("23 the last", x.separator(11) > 0);
+        due("23 no more", x.separator(12), NONE);
+        due("7 cleared", x.clear(), 40);
     }
 }
