@@ -1,7 +1,5 @@
 /** Each promise by its number, with answers worked out by hand from the document. */
-public final class PromisesTest {
-    private static final int BAD = -1, NONE = -2, FULL = -3, TURN = -4;
-    private static final int LOW = Integer.MIN_VALUE, HIGH = Integer.MAX_VALUE;
+public final class PromisesTest extends Builders {
     private static final Check CHECK = new Check("PromisesTest");
 
     public static void main(String[] args) {
@@ -40,33 +38,6 @@ public final class PromisesTest {
 
     private static void due(String what, int got, int want) {
         CHECK.due(what, got, want);
-    }
-
-    private static BalancedSplits withNodes(int... weights) {
-        BalancedSplits x = new BalancedSplits();
-        for (int w : weights) {
-            x.node(w);
-        }
-        return x;
-    }
-
-    private static BalancedSplits ones(int nodes) {
-        int[] weights = new int[nodes];
-        java.util.Arrays.fill(weights, 1);
-        return withNodes(weights);
-    }
-
-    /** Arcs as rows of three: both ends and the weight. */
-    private static void arcs(BalancedSplits x, int... rows) {
-        for (int i = 0; i < rows.length; i += 3) {
-            x.arc(rows[i], rows[i + 1], rows[i + 2]);
-        }
-    }
-
-    private static void putAll(BalancedSplits x, int... parts) {
-        for (int i = 0; i < parts.length; i++) {
-            x.put(i, parts[i]);
-        }
     }
 
     private static void dueParts(String what, BalancedSplits x, int... parts) {
@@ -360,14 +331,6 @@ public final class PromisesTest {
         due("14 seven do not, but none is joined within the limit of 1", ringOfOnes(7).level(1, 0), NONE);
         due("14 eight are joined", ringOfOnes(8).level(1, 0), 4);
         due("14 without nodes", new BalancedSplits().level(0, 0), 0);
-    }
-
-    private static BalancedSplits ringOfOnes(int nodes) {
-        BalancedSplits x = ones(nodes);
-        for (int i = 0; i < nodes; i++) {
-            x.arc(i, (i + 1) % nodes, 1);
-        }
-        return x;
     }
 
     private static void levelChoices() {
