@@ -2,7 +2,7 @@ import java.util.ArrayList;
 import java.util.List;
 
 /**
- * For each test of EdgesTest, one way or more to break its sentence: a place in the class, the text
+ * For each test of SentencesTest, one way or more to break its sentence: a place in the class, the text
  * there, and what to write instead. A text that the class no longer has must be changed here with it.
  */
 final class Breaks {
@@ -53,6 +53,13 @@ final class Breaks {
         breaks.order();
         breaks.separator();
         breaks.count();
+        breaks.plainGraph();
+        breaks.plainTellings();
+        breaks.plainLevels();
+        breaks.plainRun();
+        breaks.plainMoves();
+        breaks.plainMade();
+        breaks.plainSeparator();
         return breaks.all;
     }
 
@@ -465,5 +472,127 @@ final class Breaks {
         broken("24.6", at, "return levels.count;", "return levels.count - 1;");
         broken("24.7", at, "return divider.held();", "return Math.min(19, divider.held());");
         broken("24.8", "int volumes(", "all += volume(node);", "all = Math.max(all, volume(node));");
+    }
+
+    private void plainGraph() {
+        broken("0.2", "public int cut(", "top.recount();", "if (top.cut == 0) { top.recount(); }");
+        broken("1.10", "private final Split top", "private final Split top", "private static final Split top");
+        broken("2.10", "public int node(", "graph.weight[number] = weight;", "graph.weight[number] = 1;");
+        broken("2.10", "public int node(", "top.home[number] = 0;", "Arrays.fill(top.home, 0);");
+        broken("2.10", "public int node(", "return number;", "top.bounds.start(top.bounds.k); return number;");
+        broken("3.12", "int arcOf(", "arcs[a * MAX_NODES + b]", "arcs[(a & 3) * MAX_NODES + b]");
+        broken("3.12", "public int arc(", "return sum;", "Arrays.fill(top.home, 0); return sum;");
+        broken("3.12", "public int arc(", "return sum;", "graph.weight[a]++; return sum;");
+        broken("4.10", "public int parts(", "startParts(k);", "startParts(k); top.graph.empty(top.graph.size);");
+        broken("5.9", "public int bound(", "least[part] = least",
+                "least[part] = Math.max(top.bounds.least[part], least)");
+        broken("5.9", "public int bound(", "most[part] = most",
+                "most[part] = Math.min(top.bounds.most[part], most)");
+        broken("5.10", "public int bound(", "return 0;", "top.graph.weight[0] = most; return 0;");
+        broken("5.10", "public int bound(", "return 0;", "top.home[0] = part == 1 ? 0 : 1; return 0;");
+        broken("6.6", "public int put(", "top.home[node] = part;", "");
+        broken("6.6", "public int put(", "top.home[node] = part;", "Arrays.fill(top.home, part);");
+        broken("7.9", "public int clear(", "top.graph.empty(0);", "top.graph.size = 0;");
+    }
+
+    private void plainTellings() {
+        String of = "public int of(";
+        broken("8.14", of, "return top.graph.weight[node];", "return top.graph.weight[0];");
+        broken("8.14", of, "return top.home[node];", "return top.home[0];");
+        broken("8.14", of, "return top.volume(node);", "return top.graph.neighbours(node);");
+        broken("8.14", of, "return top.graph.neighbours(node);", "return top.volume(node);");
+        broken("8.15", of, "switch (what)", "top.home[node] = 0; switch (what)");
+        broken("8.15", "public int between(", "return top", "top.home[a] = 0; return top");
+        broken("8.15", "public int part(", "switch (what)", "top.home[0] = part; switch (what)");
+        broken("8.15", "public int inLevel(", "return levels", "top.home[node] = 0; return levels");
+        broken("8.15", "public int count(", "switch (what)", "top.home[0] = 0; switch (what)");
+        broken("9.5", "public int between(", "return top.graph.arcOf(a, b);", "return top.graph.arcOf(0, b);");
+        broken("10.7", "public int part(", "return top.sum[part];", "return top.nodesIn(part);");
+        broken("10.7", "public int part(", "return top.nodesIn(part);", "return top.sum[part];");
+        broken("11.5", "void recountLinks(", "cut += weight;", "cut += Math.min(1, weight);");
+        broken("12.6", "void recount(", "sum[home[node]] += graph.weight[node];", "sum[home[node]]++;");
+        broken("13.7", "int gainOf(", "- link[node * MAX_PARTS + home[node]]", "- link[node * MAX_PARTS]");
+        broken("13.7", "int gainOf(", " - link[node * MAX_PARTS + home[node]]", "");
+    }
+
+    private void plainLevels() {
+        String level = "public int level(";
+        broken("14.8", level, "return low.graph.size;", "return top.graph.size;");
+        broken("14.8", level, "return low.graph.arcCount();", "return low.graph.arcSum();");
+        broken("14.8", level, "return low.graph.arcSum();", "return low.graph.arcCount();");
+        broken("15.6", "boolean makeLevel(", "number[holder(l - 1, node)]", "number[node]");
+        broken("15.6", "public int inLevel(", "levels.holder(l, node)", "levels.holder(levels.count - 1, node)");
+        broken("16.9", "public int levelOf(", "low.graph.arcOf(node, what)", "top.graph.arcOf(node, what)");
+        broken("T2.27", "boolean joinAll(", "mate[node] = other;", "");
+        broken("T2.28", "int bestMate(", "arc > 0 && arc == bestArc", "arc > 1 && arc == bestArc");
+    }
+
+    private void plainRun() {
+        String run = "public int run(";
+        String copy = "void copyOf(";
+        broken("T1.1", "void growAll(", "placed < graph.size", "placed < graph.size - 1");
+        broken("T1.1", "void streamAll(", "i < graph.size", "i < graph.size - 1");
+        broken("17.7", run, "return cutOrMiss();",
+                "int told = cutOrMiss(); Arrays.fill(top.home, 0); return told;");
+        broken("17.7", "int cutOrMiss(", "top.recount();", "");
+        broken("17.8", run, "return cutOrMiss();",
+                "int told = cutOrMiss(); top.bounds.start(top.bounds.k); return told;");
+        broken("17.8", run, "return cutOrMiss();",
+                "int told = cutOrMiss(); top.graph.empty(top.graph.size); return told;");
+        broken("17.9", copy, "System.arraycopy(other.least, 0, least, 0, MAX_PARTS);", "");
+        broken("17.9", copy, "least, 0, MAX_PARTS)", "least, 0, MAX_PARTS - 1)");
+        broken("17.10", copy, "most, 0, MAX_PARTS)", "most, 0, MAX_PARTS - 1)");
+        broken("17.11", run, "top.bounds.k", "low.bounds.k");
+        broken("17.12", "void findBest(", "bestOver = WORST;", "");
+        broken("T3.35", run, "low.home, top.graph.size", "low.home, low.graph.size");
+    }
+
+    private void plainMoves() {
+        String pass = "boolean doPass(";
+        broken("T3.36", pass, "node < MAX_NODES", "node < MAX_NODES - 1");
+        broken("T3.37", pass, "split.home, 0, MAX_NODES)", "split.home, 0, MAX_NODES - 1)");
+        broken("T3.38", pass, "step < split.graph.size", "step < split.graph.size - 1");
+        broken("18.3", "public int refine(", "return mover",
+                "hasLevel(0); int last = levels.count - 1; levels.drawInto(last, top.graph, low.graph); "
+                + "low.bounds.copyOf(top.bounds); levels.bringDown(last, top.home, low.home, top.graph.size); "
+                + "mover.doMoves(low); levels.bringUp(last, low.home, top.home, top.graph.size); return mover");
+        broken("18.4", "int doMoves(", "return better;", "return Math.min(1, better);");
+        broken("18.4", "int doMoves(", "better < MAX_PASSES", "better < 1");
+        broken("18.5", "public int refine(", "return mover", "top.bounds.least[0] = 0; return mover");
+        broken("18.5", "public int refine(", "return mover.doMoves(top);",
+                "int told = mover.doMoves(top); top.graph.empty(top.graph.size); return told;");
+    }
+
+    private void plainMade() {
+        String cut = "return top.cut;";
+        broken("19.5", "public int grow(", cut, "top.bounds.start(top.bounds.k); return top.cut;");
+        broken("19.5", "public int grow(", "top.growAll();", "top.recount(); int told = top.cut; top.growAll(); "
+                + "if (told >= 0) { return told; }");
+        broken("20.6", "int arcsInto(", "other < graph.size", "other <= graph.size");
+        broken("20.7", "public int stream(", cut, "top.bounds.start(top.bounds.k); return top.cut;");
+        broken("20.7", "int likedPart(", "(long) alpha * sum[p]", "(long) alpha * nodesIn(p)");
+        all.add(new Break("21.6", List.of(
+                new Edit("class Order", "private final int[] waiting", "int old = 0; private final int[] waiting"),
+                new Edit("void draw(", "int x = seed;", "int x = seed + old;"),
+                new Edit("void draw(", "int place", "old = 1; int place"))));
+        broken("22.15", "void findBest(", "System.arraycopy(best, 0, split.home, 0, split.graph.size);", "");
+        broken("22.15", "public int exact(", "return cutOrMiss();",
+                "int told = cutOrMiss(); top.bounds.start(top.bounds.k); return told;");
+        broken("22.16", "public int exact(", "search.findBest(top);",
+                "if (top.graph.size > SMALL) { return run(); } search.findBest(top);");
+    }
+
+    private void plainSeparator() {
+        String find = "void find(";
+        broken("23.5", "void start(Split", "inside[a] = false;", "");
+        broken("T4.25", find, "node = nodes - 1", "node = nodes - 2");
+        broken("T4.25", "boolean isNeeded(", "other < nodes", "other <= nodes");
+        broken("T4.26", find, "open[node] > 0", "open[node] >= 0");
+        broken("24.9", "public int count(", "return top.graph.arcCount();", "return top.graph.arcSum();");
+        broken("24.9", "public int count(", "return top.volumes();", "return top.cut;");
+        broken("24.9", "public int count(", "return divider.held();", "return top.volumes();");
+        broken("24.10", "int arcCount(", "i < size", "i <= size");
+        broken("24.10", "int arcSum(", "a < size", "a < size - 2");
+        broken("24.10", "int volumes(", "node < graph.size", "node <= graph.size");
     }
 }

@@ -36,7 +36,7 @@ public final class BreaksTest {
 
     private void lookAtAll() throws Exception {
         String source = Files.readString(SOURCE);
-        Set<String> without = new TreeSet<>(EdgesTest.sentences().numbers());
+        Set<String> without = new TreeSet<>(SentencesTest.sentences().numbers());
         int place = 0;
         for (Breaks.Break one : Breaks.all()) {
             Path broken = Files.createDirectory(room.resolve("broken" + place));
@@ -66,7 +66,7 @@ public final class BreaksTest {
     private boolean holds(String number, Path broken) throws Exception {
         URL[] from = {broken.toUri().toURL(), own};
         try (URLClassLoader loader = new URLClassLoader(from, ClassLoader.getPlatformClassLoader())) {
-            return (boolean) loader.loadClass("EdgesTest").getMethod("holds", String.class).invoke(null, number);
+            return (boolean) loader.loadClass("SentencesTest").getMethod("holds", String.class).invoke(null, number);
         }
     }
 

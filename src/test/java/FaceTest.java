@@ -53,6 +53,8 @@ public final class FaceTest {
         for (Field f : BalancedSplits.class.getDeclaredFields()) {
             if (!Modifier.isPrivate(f.getModifiers())) {
                 open.add(f.getName());
+                CHECK.holds(f + " is a public constant", f.getType() == int.class
+                        && f.getModifiers() == (Modifier.PUBLIC | Modifier.STATIC | Modifier.FINAL));
             }
             CHECK.holds(f + ": a static field is final",
                     !Modifier.isStatic(f.getModifiers()) || Modifier.isFinal(f.getModifiers()));

@@ -35,8 +35,7 @@ final class Sentences {
 
     private static String lineOf(Throwable e) {
         for (StackTraceElement at : e.getStackTrace()) {
-            if (at.getFileName() != null && at.getFileName().endsWith("Edges.java")
-                    && !at.getFileName().equals("Edges.java")) {
+            if (at.getFileName() != null && at.getFileName().endsWith("Sentences.java")) {
                 return at.getFileName() + ":" + at.getLineNumber();
             }
         }

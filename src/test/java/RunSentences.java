@@ -1,5 +1,5 @@
 /** Promises 17 to 19 and 22, and part 3 of the terms. */
-final class RunEdges extends Edges {
+final class RunSentences extends Looks {
     static void addTo(Sentences all) {
         addRun(all);
         addFirstSplit(all);
@@ -15,12 +15,12 @@ final class RunEdges extends Edges {
     }
 
     private static void addRun(Sentences all) {
-        all.add("17.1", "\"CUT\": 0, if it FITS and nothing is cut", RunEdges::runCutsNothing);
-        all.add("17.2", "\"CUT\": what is cut, if it FITS", RunEdges::runCuts);
-        all.add("17.3", "\"- 10 less OVER if it does not FIT\": by the least, OVER 1", RunEdges::runMissesByOne);
-        all.add("17.4", "\"- 10 less OVER if it does not FIT\": of no NODES", RunEdges::runMissesWithoutNodes);
-        all.add("17.5", "\"- 10 less OVER if it does not FIT\": the most there can be", RunEdges::runMissesByMost);
-        all.add("17.6", "\"RUN\": the SPLIT of before does not matter", RunEdges::runForgets);
+        all.add("17.1", "\"CUT\": 0, if it FITS and nothing is cut", RunSentences::runCutsNothing);
+        all.add("17.2", "\"CUT\": what is cut, if it FITS", RunSentences::runCuts);
+        all.add("17.3", "\"- 10 less OVER if it does not FIT\": by the least, OVER 1", RunSentences::runMissesByOne);
+        all.add("17.4", "\"- 10 less OVER if it does not FIT\": of no NODES", RunSentences::runMissesWithoutNodes);
+        all.add("17.5", "\"- 10 less OVER if it does not FIT\": the most there can be", RunSentences::runMissesByMost);
+        all.add("17.6", "\"RUN\": the SPLIT of before does not matter", RunSentences::runForgets);
     }
 
     private static void runCutsNothing() {
@@ -78,15 +78,15 @@ final class RunEdges extends Edges {
     }
 
     private static void addFirstSplit(Sentences all) {
-        all.add("T3.1", "\"if it has 6 NODES or fewer\": 6 are tried, not grown", RunEdges::sixAreTried);
-        all.add("T3.2", "\"Else GROWING\": 7 are grown, not tried", RunEdges::sevenAreGrown);
-        all.add("T3.3", "\"on the last LEVEL, if it has 6 NODES or fewer\": 7 joined to 6", RunEdges::joinedToSix);
+        all.add("T3.1", "\"if it has 6 NODES or fewer\": 6 are tried, not grown", RunSentences::sixAreTried);
+        all.add("T3.2", "\"Else GROWING\": 7 are grown, not tried", RunSentences::sevenAreGrown);
+        all.add("T3.3", "\"on the last LEVEL, if it has 6 NODES or fewer\": 7 joined to 6", RunSentences::joinedToSix);
         all.add("T3.4", "\"Else GROWING\": 8 joined to 7 are grown there, with the WEIGHTS there",
-                RunEdges::joinedToSeven);
-        all.add("T3.5", "\"that with the least OVER\": before the least CUT", RunEdges::triedByOver);
-        all.add("T3.6", "\"of these with the least CUT\": before the first", RunEdges::triedByCut);
+                RunSentences::joinedToSeven);
+        all.add("T3.5", "\"that with the least OVER\": before the least CUT", RunSentences::triedByOver);
+        all.add("T3.6", "\"of these with the least CUT\": before the first", RunSentences::triedByCut);
         all.add("T3.7", "\"of these the first (NODES in order, the first one's PART changing slowest)\"",
-                RunEdges::triedInOrder);
+                RunSentences::triedInOrder);
     }
 
     private static void sixAreTried() {
@@ -153,12 +153,12 @@ final class RunEdges extends Edges {
     }
 
     private static void addGrowing(Sentences all) {
-        all.add("T3.8", "\"NODES by falling WEIGHT\"", RunEdges::fallingWeight);
-        all.add("T3.9", "\"(of like ones by number)\"", RunEdges::likeWeights);
+        all.add("T3.8", "\"NODES by falling WEIGHT\"", RunSentences::fallingWeight);
+        all.add("T3.9", "\"(of like ones by number)\"", RunSentences::likeWeights);
         all.add("T3.10", "\"for which most less the sum of those there is greatest\": not the least sum",
-                RunEdges::mostLessSum);
-        all.add("T3.11", "\"(the first of like ones)\"", RunEdges::likeRoom);
-        all.add("T3.12", "\"most less the sum\": below 0 too", RunEdges::roomBelowZero);
+                RunSentences::mostLessSum);
+        all.add("T3.11", "\"(the first of like ones)\"", RunSentences::likeRoom);
+        all.add("T3.12", "\"most less the sum\": below 0 too", RunSentences::roomBelowZero);
     }
 
     private static void fallingWeight() {
@@ -202,10 +202,10 @@ final class RunEdges extends Edges {
     }
 
     private static void addWhereMoves(Sentences all) {
-        all.add("T3.13", "\"Then MOVES there\": on the last LEVEL", RunEdges::movesOnLast);
-        all.add("T3.14", "\"each NODE has the PART of the one that it is in below\"", RunEdges::partOfBelow);
-        all.add("T3.15", "\"LEVEL by LEVEL upwards\", \"then MOVES\": on LEVELS between", RunEdges::movesBetween);
-        all.add("T3.16", "\"LEVEL by LEVEL upwards\", \"then MOVES\": on THE GRAPH", RunEdges::movesOnGraph);
+        all.add("T3.13", "\"Then MOVES there\": on the last LEVEL", RunSentences::movesOnLast);
+        all.add("T3.14", "\"each NODE has the PART of the one that it is in below\"", RunSentences::partOfBelow);
+        all.add("T3.15", "\"LEVEL by LEVEL upwards\", \"then MOVES\": on LEVELS between", RunSentences::movesBetween);
+        all.add("T3.16", "\"LEVEL by LEVEL upwards\", \"then MOVES\": on THE GRAPH", RunSentences::movesOnGraph);
     }
 
     private static void movesOnLast() {
@@ -244,12 +244,13 @@ final class RunEdges extends Edges {
     }
 
     private static void addPasses(Sentences all) {
-        all.add("T3.17", "\"PASSES, up to 8\": an eighth is done", RunEdges::eightPasses);
-        all.add("T3.18", "\"PASSES, up to 8\": a ninth is not", RunEdges::noNinthPass);
-        all.add("T3.19", "\"(OVER less\": though CUT is more", RunEdges::overLess);
-        all.add("T3.20", "\"OVER the same and CUT less\": of an OVER above 0 too", RunEdges::cutLess);
-        all.add("T3.21", "\"while one makes it better\": not by like OVER and like CUT", RunEdges::noBetter);
-        all.add("T3.22", "\"A PASS: all NODES are free\": those that an earlier one moved too", RunEdges::freeAgain);
+        all.add("T3.17", "\"PASSES, up to 8\": an eighth is done", RunSentences::eightPasses);
+        all.add("T3.18", "\"PASSES, up to 8\": a ninth is not", RunSentences::noNinthPass);
+        all.add("T3.19", "\"(OVER less\": though CUT is more", RunSentences::overLess);
+        all.add("T3.20", "\"OVER the same and CUT less\": of an OVER above 0 too", RunSentences::cutLess);
+        all.add("T3.21", "\"while one makes it better\": not by like OVER and like CUT", RunSentences::noBetter);
+        all.add("T3.22", "\"A PASS: all NODES are free\": those that an earlier one moved too",
+                RunSentences::freeAgain);
     }
 
     /** A path that a ninth pass would still make better; Oracle says the same of it. */
@@ -316,16 +317,16 @@ final class RunEdges extends Edges {
     }
 
     private static void addChoice(Sentences all) {
-        all.add("T3.23", "\"PARTS but theirs\": to stay is no MOVE", RunEdges::stayingIsNone);
-        all.add("T3.24", "\"by which OVER does not grow\": one by which it grows is not done", RunEdges::noGrowth);
-        all.add("T3.25", "\"by which OVER does not grow\": one that leaves it the same is", RunEdges::sameOver);
-        all.add("T3.26", "\"that with the least OVER behind it\": before the greatest GAIN", RunEdges::leastOver);
+        all.add("T3.23", "\"PARTS but theirs\": to stay is no MOVE", RunSentences::stayingIsNone);
+        all.add("T3.24", "\"by which OVER does not grow\": one by which it grows is not done", RunSentences::noGrowth);
+        all.add("T3.25", "\"by which OVER does not grow\": one that leaves it the same is", RunSentences::sameOver);
+        all.add("T3.26", "\"that with the least OVER behind it\": before the greatest GAIN", RunSentences::leastOver);
         all.add("T3.27", "\"of these with the greatest GAIN\": before the least NODE and PART",
-                RunEdges::greatestGain);
-        all.add("T3.28", "\"then the least NODE\"", RunEdges::leastNode);
-        all.add("T3.29", "\"the least PART\"", RunEdges::leastPart);
-        all.add("T3.30", "\"the NODE is free no more\"", RunEdges::freeNoMore);
-        all.add("T3.31", "\"on and on, till there is none\": through a GAIN below 0", RunEdges::onAndOn);
+                RunSentences::greatestGain);
+        all.add("T3.28", "\"then the least NODE\"", RunSentences::leastNode);
+        all.add("T3.29", "\"the least PART\"", RunSentences::leastPart);
+        all.add("T3.30", "\"the NODE is free no more\"", RunSentences::freeNoMore);
+        all.add("T3.31", "\"on and on, till there is none\": through a GAIN below 0", RunSentences::onAndOn);
     }
 
     /** 0 and 1 hang together by 2, and by 1 each on 2, which may not leave part 1 empty. */
@@ -415,9 +416,9 @@ final class RunEdges extends Edges {
     }
 
     private static void addPassEnd(Sentences all) {
-        all.add("T3.32", "\"Then it goes back to where it was best in the PASS\"", RunEdges::goesBack);
-        all.add("T3.33", "\"(its beginning too\"", RunEdges::backToBeginning);
-        all.add("T3.34", "\"the first of like ones)\"", RunEdges::firstOfLikeOnes);
+        all.add("T3.32", "\"Then it goes back to where it was best in the PASS\"", RunSentences::goesBack);
+        all.add("T3.33", "\"(its beginning too\"", RunSentences::backToBeginning);
+        all.add("T3.34", "\"the first of like ones)\"", RunSentences::firstOfLikeOnes);
     }
 
     private static void goesBack() {
@@ -445,9 +446,9 @@ final class RunEdges extends Edges {
 
     private static void addRefine(Sentences all) {
         all.add("18.1", "\"how many PASSES made it better\": none, and the one that did not is not counted",
-                RunEdges::refineCounts);
+                RunSentences::refineCounts);
         all.add("18.2", "\"of the SPLIT as it is, on THE GRAPH alone\": though a RUN would find a better one",
-                RunEdges::refineAlone);
+                RunSentences::refineAlone);
     }
 
     private static void refineCounts() {
@@ -466,10 +467,10 @@ final class RunEdges extends Edges {
     }
 
     private static void addGrow(Sentences all) {
-        all.add("19.1", "\"GROWING .. alone\": without MOVES behind it", RunEdges::growWithoutMoves);
-        all.add("19.2", "\"on THE GRAPH alone\": not on the last LEVEL", RunEdges::growOnGraph);
-        all.add("19.3", "\"CUT\": though it does not FIT", RunEdges::growTellsCut);
-        all.add("19.4", "\"GROWING\": the SPLIT of before does not matter", RunEdges::growForgets);
+        all.add("19.1", "\"GROWING .. alone\": without MOVES behind it", RunSentences::growWithoutMoves);
+        all.add("19.2", "\"on THE GRAPH alone\": not on the last LEVEL", RunSentences::growOnGraph);
+        all.add("19.3", "\"CUT\": though it does not FIT", RunSentences::growTellsCut);
+        all.add("19.4", "\"GROWING\": the SPLIT of before does not matter", RunSentences::growForgets);
     }
 
     private static void growWithoutMoves() {
@@ -501,12 +502,12 @@ final class RunEdges extends Edges {
     }
 
     private static void addExact(Sentences all) {
-        all.add("22.1", "\"the least OVER\": before the least CUT", RunEdges::exactOver);
-        all.add("22.2", "\"then CUT\": before the first", RunEdges::exactCut);
-        all.add("22.3", "\"the first of like ones\"", RunEdges::exactFirst);
-        all.add("22.4", "\"CUT\": 0 and more, if it FITS", RunEdges::exactTellsCut);
-        all.add("22.5", "\"- 10 less OVER\": by the least, OVER 1", RunEdges::exactMisses);
-        all.add("22.6", "\"of all\": of no NODES there is one", RunEdges::exactOfNone);
+        all.add("22.1", "\"the least OVER\": before the least CUT", RunSentences::exactOver);
+        all.add("22.2", "\"then CUT\": before the first", RunSentences::exactCut);
+        all.add("22.3", "\"the first of like ones\"", RunSentences::exactFirst);
+        all.add("22.4", "\"CUT\": 0 and more, if it FITS", RunSentences::exactTellsCut);
+        all.add("22.5", "\"- 10 less OVER\": by the least, OVER 1", RunSentences::exactMisses);
+        all.add("22.6", "\"of all\": of no NODES there is one", RunSentences::exactOfNone);
     }
 
     private static void exactOver() {
@@ -569,8 +570,8 @@ final class RunEdges extends Edges {
         all.add("22.10", "\"more than 60000\": 177147 of eleven NODES and 3 PARTS are", () -> tooMany(3, 11));
         all.add("22.11", "\"more than 60000\": 16384 of seven NODES and 4 PARTS are not", () -> notTooMany(4, 7));
         all.add("22.12", "\"more than 60000\": 65536 of eight NODES and 4 PARTS are", () -> tooMany(4, 8));
-        all.add("22.13", "\"TURN\": of numbers that wrap around in 32 bits too", RunEdges::turnPastWrap);
-        all.add("22.14", "\"(nothing is done)\"", RunEdges::turnDoesNothing);
+        all.add("22.13", "\"TURN\": of numbers that wrap around in 32 bits too", RunSentences::turnPastWrap);
+        all.add("22.14", "\"(nothing is done)\"", RunSentences::turnDoesNothing);
     }
 
     /** One node is asked for in the last part: in the first split of those, it is the last one. */
@@ -593,7 +594,8 @@ final class RunEdges extends Edges {
         for (int k = 2; k <= 4; k++) {
             BalancedSplits x = ones(15);
             x.parts(k);
-            while (x.node(1) != FULL) {
+            for (int nodes = 16; nodes <= 40; nodes++) {
+                x.node(1);
                 due(x.exact(), TURN);
             }
         }

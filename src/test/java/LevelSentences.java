@@ -1,5 +1,5 @@
 /** Promises 14 to 16 and part 2 of the terms. */
-final class LevelEdges extends Edges {
+final class LevelSentences extends Looks {
     static void addTo(Sentences all) {
         addWhichLevels(all);
         addJoining(all);
@@ -12,13 +12,13 @@ final class LevelEdges extends Edges {
     }
 
     private static void addWhichLevels(Sentences all) {
-        all.add("T2.1", "\"LEVEL 0 is THE GRAPH\"", LevelEdges::levelZero);
-        all.add("T2.2", "\"a LEVEL with more than 6 NODES\": of 6 none is made", LevelEdges::sixNodes);
-        all.add("T2.3", "\"a LEVEL with more than 6 NODES\": of 7 one is", LevelEdges::sevenNodes);
-        all.add("T2.4", "\"more than 6 NODES\": 6 that were joined stay", LevelEdges::sixLeft);
-        all.add("T2.5", "\"more than 6 NODES\": 7 that were joined are joined on", LevelEdges::sevenLeft);
-        all.add("T2.6", "\"If none is joined, there is no next LEVEL\": without ARCS", LevelEdges::noArcs);
-        all.add("T2.7", "\"If none is joined, there is no next LEVEL\": all beyond LIMIT", LevelEdges::allTooHeavy);
+        all.add("T2.1", "\"LEVEL 0 is THE GRAPH\"", LevelSentences::levelZero);
+        all.add("T2.2", "\"a LEVEL with more than 6 NODES\": of 6 none is made", LevelSentences::sixNodes);
+        all.add("T2.3", "\"a LEVEL with more than 6 NODES\": of 7 one is", LevelSentences::sevenNodes);
+        all.add("T2.4", "\"more than 6 NODES\": 6 that were joined stay", LevelSentences::sixLeft);
+        all.add("T2.5", "\"more than 6 NODES\": 7 that were joined are joined on", LevelSentences::sevenLeft);
+        all.add("T2.6", "\"If none is joined, there is no next LEVEL\": without ARCS", LevelSentences::noArcs);
+        all.add("T2.7", "\"If none is joined, there is no next LEVEL\": all beyond LIMIT", LevelSentences::allTooHeavy);
     }
 
     private static void levelZero() {
@@ -76,14 +76,14 @@ final class LevelEdges extends Edges {
     }
 
     private static void addJoining(Sentences all) {
-        all.add("T2.8", "\"these are gone through by rising number\"", LevelEdges::rising);
-        all.add("T2.9", "\"one that is not joined yet\": a joined one is not gone through", LevelEdges::joinedOne);
-        all.add("T2.10", "\"its neighbours, not joined yet\": a joined one is not taken", LevelEdges::joinedMate);
-        all.add("T2.11", "\"whose ARC is the heaviest\"", LevelEdges::heaviest);
-        all.add("T2.12", "\"of like ones the one of less WEIGHT\"", LevelEdges::lessWeight);
-        all.add("T2.13", "\"then of the lesser number\"", LevelEdges::lesserNumber);
+        all.add("T2.8", "\"these are gone through by rising number\"", LevelSentences::rising);
+        all.add("T2.9", "\"one that is not joined yet\": a joined one is not gone through", LevelSentences::joinedOne);
+        all.add("T2.10", "\"its neighbours, not joined yet\": a joined one is not taken", LevelSentences::joinedMate);
+        all.add("T2.11", "\"whose ARC is the heaviest\"", LevelSentences::heaviest);
+        all.add("T2.12", "\"of like ones the one of less WEIGHT\"", LevelSentences::lessWeight);
+        all.add("T2.13", "\"then of the lesser number\"", LevelSentences::lesserNumber);
         all.add("T2.14", "\"of those with which its WEIGHT does not go beyond LIMIT\": a heavier ARC is passed over",
-                LevelEdges::passedOver);
+                LevelSentences::passedOver);
     }
 
     private static void rising() {
@@ -139,12 +139,12 @@ final class LevelEdges extends Edges {
     }
 
     private static void addLimit(Sentences all) {
-        all.add("T2.15", "\"does not go beyond LIMIT\": just at it they are joined", LevelEdges::atLimit);
-        all.add("T2.16", "\"does not go beyond LIMIT\": one beyond they are not", LevelEdges::beyondLimit);
-        all.add("T2.17", "\"rounded down\"", LevelEdges::roundedDown);
-        all.add("T2.18", "\"(2 K)\": LIMIT is less with more PARTS", LevelEdges::limitByParts);
+        all.add("T2.15", "\"does not go beyond LIMIT\": just at it they are joined", LevelSentences::atLimit);
+        all.add("T2.16", "\"does not go beyond LIMIT\": one beyond they are not", LevelSentences::beyondLimit);
+        all.add("T2.17", "\"rounded down\"", LevelSentences::roundedDown);
+        all.add("T2.18", "\"(2 K)\": LIMIT is less with more PARTS", LevelSentences::limitByParts);
         all.add("T2.19", "\"the sum of all WEIGHTS\": of those without ARCS too, 40000 at most",
-                LevelEdges::limitOfAll);
+                LevelSentences::limitOfAll);
     }
 
     private static void atLimit() {
@@ -191,10 +191,10 @@ final class LevelEdges extends Edges {
     }
 
     private static void addNextLevel(Sentences all) {
-        all.add("T2.20", "\"numbered by the least number that they are made of\"", LevelEdges::numbers);
-        all.add("T2.21", "\"with the sum of WEIGHTS\"", LevelEdges::joinedWeights);
-        all.add("T2.22", "\"ARCS between them likewise\": added up to one", LevelEdges::joinedArcs);
-        all.add("T2.23", "\"(none within one)\"", LevelEdges::noneWithin);
+        all.add("T2.20", "\"numbered by the least number that they are made of\"", LevelSentences::numbers);
+        all.add("T2.21", "\"with the sum of WEIGHTS\"", LevelSentences::joinedWeights);
+        all.add("T2.22", "\"ARCS between them likewise\": added up to one", LevelSentences::joinedArcs);
+        all.add("T2.23", "\"(none within one)\"", LevelSentences::noneWithin);
     }
 
     private static void numbers() {
@@ -236,9 +236,9 @@ final class LevelEdges extends Edges {
     }
 
     private static void addChanges(Sentences all) {
-        all.add("T2.24", "\"LEVEL 0 is THE GRAPH\": a NODE more changes the LEVELS", LevelEdges::nodeMore);
-        all.add("T2.25", "\"LEVEL 0 is THE GRAPH\": an ARC more changes the LEVELS", LevelEdges::arcMore);
-        all.add("T2.26", "\"LIMIT\": neither BOUNDS nor the SPLIT change the LEVELS", LevelEdges::levelsStay);
+        all.add("T2.24", "\"LEVEL 0 is THE GRAPH\": a NODE more changes the LEVELS", LevelSentences::nodeMore);
+        all.add("T2.25", "\"LEVEL 0 is THE GRAPH\": an ARC more changes the LEVELS", LevelSentences::arcMore);
+        all.add("T2.26", "\"LIMIT\": neither BOUNDS nor the SPLIT change the LEVELS", LevelSentences::levelsStay);
     }
 
     private static void nodeMore() {
@@ -271,13 +271,13 @@ final class LevelEdges extends Edges {
     }
 
     private static void addLevel(Sentences all) {
-        all.add("14.1", "\"LEVEL l (0 the first)\": NODES, ARCS, the sum of these", LevelEdges::firstLevel);
-        all.add("14.2", "\"of none such NONE\": the last is there, none behind it", LevelEdges::lastLevel);
-        all.add("14.3", "\"BAD\", \"l below 0\"", LevelEdges::levelBelow);
-        all.add("14.4", "\"BAD\", \"what\": below 0", LevelEdges::levelWhatBelow);
-        all.add("14.5", "\"BAD\", \"what\": above 2", LevelEdges::levelWhatAbove);
-        all.add("14.6", "\"BAD (looked at first)\": of no such LEVEL too", LevelEdges::badLookedAtFirst);
-        all.add("14.7", "\"how many NODES\": forty, and six behind thirty-four joins", LevelEdges::mostLevels);
+        all.add("14.1", "\"LEVEL l (0 the first)\": NODES, ARCS, the sum of these", LevelSentences::firstLevel);
+        all.add("14.2", "\"of none such NONE\": the last is there, none behind it", LevelSentences::lastLevel);
+        all.add("14.3", "\"BAD\", \"l below 0\"", LevelSentences::levelBelow);
+        all.add("14.4", "\"BAD\", \"what\": below 0", LevelSentences::levelWhatBelow);
+        all.add("14.5", "\"BAD\", \"what\": above 2", LevelSentences::levelWhatAbove);
+        all.add("14.6", "\"BAD (looked at first)\": of no such LEVEL too", LevelSentences::badLookedAtFirst);
+        all.add("14.7", "\"how many NODES\": forty, and six behind thirty-four joins", LevelSentences::mostLevels);
     }
 
     private static void firstLevel() {
@@ -352,11 +352,12 @@ final class LevelEdges extends Edges {
     }
 
     private static void addInLevel(Sentences all) {
-        all.add("15.1", "\"The NODE of LEVEL l\": itself in LEVEL 0", LevelEdges::inLevelZero);
-        all.add("15.2", "\"a NODE of THE GRAPH\": also one of a number that LEVEL l has not", LevelEdges::inLastLevel);
-        all.add("15.3", "\"BAD (also no such LEVEL)\": below 0", LevelEdges::inLevelBelow);
-        all.add("15.4", "\"BAD (also no such LEVEL)\": behind the last", LevelEdges::inLevelBehind);
-        all.add("15.5", "\"BAD\": no such NODE", LevelEdges::inLevelOfNoNode);
+        all.add("15.1", "\"The NODE of LEVEL l\": itself in LEVEL 0", LevelSentences::inLevelZero);
+        all.add("15.2", "\"a NODE of THE GRAPH\": also one of a number that LEVEL l has not",
+                LevelSentences::inLastLevel);
+        all.add("15.3", "\"BAD (also no such LEVEL)\": below 0", LevelSentences::inLevelBelow);
+        all.add("15.4", "\"BAD (also no such LEVEL)\": behind the last", LevelSentences::inLevelBehind);
+        all.add("15.5", "\"BAD\": no such NODE", LevelSentences::inLevelOfNoNode);
     }
 
     private static void inLevelZero() {
@@ -397,16 +398,17 @@ final class LevelEdges extends Edges {
     }
 
     private static void addLevelOf(Sentences all) {
-        all.add("16.1", "\"WEIGHT of a NODE of LEVEL l (what = -1)\": of the first and the last", LevelEdges::weightOf);
-        all.add("16.2", "\"0 without one\": and from a NODE to itself", LevelEdges::withoutArc);
-        all.add("16.3", "\"BAD: no such LEVEL\": below 0", LevelEdges::levelOfBelow);
-        all.add("16.4", "\"BAD: no such LEVEL\": behind the last", LevelEdges::levelOfBehind);
-        all.add("16.5", "\"BAD: no such .. NODE\": one that LEVEL 0 has and LEVEL l has not", LevelEdges::goneNode);
-        all.add("16.6", "\"BAD: no such .. NODE\": of no LEVEL", LevelEdges::levelOfNoNode);
+        all.add("16.1", "\"WEIGHT of a NODE of LEVEL l (what = -1)\": of the first and the last",
+                LevelSentences::weightOf);
+        all.add("16.2", "\"0 without one\": and from a NODE to itself", LevelSentences::withoutArc);
+        all.add("16.3", "\"BAD: no such LEVEL\": below 0", LevelSentences::levelOfBelow);
+        all.add("16.4", "\"BAD: no such LEVEL\": behind the last", LevelSentences::levelOfBehind);
+        all.add("16.5", "\"BAD: no such .. NODE\": one that LEVEL 0 has and LEVEL l has not", LevelSentences::goneNode);
+        all.add("16.6", "\"BAD: no such .. NODE\": of no LEVEL", LevelSentences::levelOfNoNode);
         all.add("16.7", "\"its ARC to NODE what there\", \"BAD: no such .. NODE\": what is none of LEVEL l",
-                LevelEdges::goneOther);
+                LevelSentences::goneOther);
         all.add("16.8", "\"its ARC to NODE what there\", \"BAD: no such .. NODE\": what below -1",
-                LevelEdges::otherBelow);
+                LevelSentences::otherBelow);
     }
 
     private static void weightOf() {

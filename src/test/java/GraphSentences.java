@@ -1,9 +1,9 @@
 import java.util.List;
 
 /** Promises 1 to 7 and part 1 of the terms, as far as it says what a graph may hold. */
-final class GraphEdges extends Edges {
+final class GraphSentences extends Looks {
     static void addTo(Sentences all) {
-        all.add("0.1", "\"at most 512 calls\": the last of them answers as the first", GraphEdges::lastCall);
+        all.add("0.1", "\"at most 512 calls\": the last of them answers as the first", GraphSentences::lastCall);
         addNew(all);
         addNode(all);
         addArc(all);
@@ -24,15 +24,16 @@ final class GraphEdges extends Edges {
     }
 
     private static void addNew(Sentences all) {
-        all.add("1.1", "\"No NODES\": a new object has none", GraphEdges::noNodes);
-        all.add("1.2", "\"No NODES\": what the calls on a split answer then", GraphEdges::splitOfNone);
-        all.add("1.3", "\"No NODES\": what the calls on levels answer then", GraphEdges::levelsOfNone);
-        all.add("1.4", "\"No NODES\": what the calls that make splits answer then", GraphEdges::madeOfNone);
-        all.add("1.5", "\"K 2\"", GraphEdges::twoParts);
-        all.add("1.6", "\"BOUNDS 0 .. 1000000\": the least is 0", GraphEdges::firstLeast);
-        all.add("1.7", "\"BOUNDS 0 .. 1000000\": the most is 1000000", GraphEdges::firstMost);
-        all.add("1.8", "\"ALPHA 0\": a first stream with 0, and one behind a greater ALPHA", GraphEdges::firstAlpha);
-        all.add("1.9", "\"BAD = -1, NONE = -2, FULL = -3, TURN = -4\"", GraphEdges::constants);
+        all.add("1.1", "\"No NODES\": a new object has none", GraphSentences::noNodes);
+        all.add("1.2", "\"No NODES\": what the calls on a split answer then", GraphSentences::splitOfNone);
+        all.add("1.3", "\"No NODES\": what the calls on levels answer then", GraphSentences::levelsOfNone);
+        all.add("1.4", "\"No NODES\": what the calls that make splits answer then", GraphSentences::madeOfNone);
+        all.add("1.5", "\"K 2\"", GraphSentences::twoParts);
+        all.add("1.6", "\"BOUNDS 0 .. 1000000\": the least is 0", GraphSentences::firstLeast);
+        all.add("1.7", "\"BOUNDS 0 .. 1000000\": the most is 1000000", GraphSentences::firstMost);
+        all.add("1.8", "\"ALPHA 0\": a first stream with 0, and one behind a greater ALPHA",
+                GraphSentences::firstAlpha);
+        all.add("1.9", "\"BAD = -1, NONE = -2, FULL = -3, TURN = -4\"", GraphSentences::constants);
     }
 
     private static void noNodes() {
@@ -126,15 +127,15 @@ final class GraphEdges extends Edges {
     }
 
     private static void addNode(Sentences all) {
-        all.add("2.1", "\"A NODE more, in PART 0\": though others are elsewhere", GraphEdges::inPartZero);
-        all.add("2.2", "\"its number\": from 0 on, a refused call takes none", GraphEdges::number);
-        all.add("2.3", "\"a WEIGHT 1 ..\", \"BAD\": 1 is taken, 0 and below are not", GraphEdges::leastWeight);
-        all.add("2.4", "\".. 1000\", \"BAD\": 1000 is taken, 1001 and above are not", GraphEdges::mostWeight);
-        all.add("2.5", "\"BAD\": a refused weight changes nothing", GraphEdges::badNodeChangesNothing);
-        all.add("2.6", "\"up to 40 NODES\": the fortieth is taken", GraphEdges::fortieth);
-        all.add("2.7", "\"FULL\": the forty-first is not", GraphEdges::fortyFirst);
-        all.add("2.8", "\"FULL\": changes nothing", GraphEdges::fullChangesNothing);
-        all.add("2.9", "\"BAD; FULL\": BAD comes first", GraphEdges::badBeforeFull);
+        all.add("2.1", "\"A NODE more, in PART 0\": though others are elsewhere", GraphSentences::inPartZero);
+        all.add("2.2", "\"its number\": from 0 on, a refused call takes none", GraphSentences::number);
+        all.add("2.3", "\"a WEIGHT 1 ..\", \"BAD\": 1 is taken, 0 and below are not", GraphSentences::leastWeight);
+        all.add("2.4", "\".. 1000\", \"BAD\": 1000 is taken, 1001 and above are not", GraphSentences::mostWeight);
+        all.add("2.5", "\"BAD\": a refused weight changes nothing", GraphSentences::badNodeChangesNothing);
+        all.add("2.6", "\"up to 40 NODES\": the fortieth is taken", GraphSentences::fortieth);
+        all.add("2.7", "\"FULL\": the forty-first is not", GraphSentences::fortyFirst);
+        all.add("2.8", "\"FULL\": changes nothing", GraphSentences::fullChangesNothing);
+        all.add("2.9", "\"BAD; FULL\": BAD comes first", GraphSentences::badBeforeFull);
     }
 
     private static void inPartZero() {
@@ -214,18 +215,18 @@ final class GraphEdges extends Edges {
     }
 
     private static void addArc(Sentences all) {
-        all.add("3.1", "\"what it has then\"", GraphEdges::whatItHas);
-        all.add("3.2", "\"one told again adds to it\": from either end, and is one ARC", GraphEdges::toldAgain);
-        all.add("3.3", "\"between two unlike ones\", \"BAD\": not from a NODE to itself", GraphEdges::toItself);
-        all.add("3.4", "\"of a WEIGHT 1 ..\", \"BAD\": 1 is taken, 0 and below are not", GraphEdges::leastArc);
-        all.add("3.5", "\".. 1000\", \"BAD\": 1000 is taken, 1001 and above are not", GraphEdges::mostArc);
-        all.add("3.6", "\"BAD\": the first is no NODE", GraphEdges::noFirstEnd);
-        all.add("3.7", "\"BAD\": the second is no NODE", GraphEdges::noSecondEnd);
-        all.add("3.8", "\"BAD\": changes nothing", GraphEdges::badArcChangesNothing);
+        all.add("3.1", "\"what it has then\"", GraphSentences::whatItHas);
+        all.add("3.2", "\"one told again adds to it\": from either end, and is one ARC", GraphSentences::toldAgain);
+        all.add("3.3", "\"between two unlike ones\", \"BAD\": not from a NODE to itself", GraphSentences::toItself);
+        all.add("3.4", "\"of a WEIGHT 1 ..\", \"BAD\": 1 is taken, 0 and below are not", GraphSentences::leastArc);
+        all.add("3.5", "\".. 1000\", \"BAD\": 1000 is taken, 1001 and above are not", GraphSentences::mostArc);
+        all.add("3.6", "\"BAD\": the first is no NODE", GraphSentences::noFirstEnd);
+        all.add("3.7", "\"BAD\": the second is no NODE", GraphSentences::noSecondEnd);
+        all.add("3.8", "\"BAD\": changes nothing", GraphSentences::badArcChangesNothing);
         // 1000000 is beyond what 512 calls can tell, so these go on past them.
-        all.add("3.9", "\"(1000000 at most)\": 1000000 is reached", GraphEdges::fullArc);
-        all.add("3.10", "\"FULL: above 1000000\": one above is not", GraphEdges::aboveFullArc);
-        all.add("3.11", "\"FULL\": changes nothing, and BAD is named before it", GraphEdges::fullArcChangesNothing);
+        all.add("3.9", "\"(1000000 at most)\": 1000000 is reached", GraphSentences::fullArc);
+        all.add("3.10", "\"FULL: above 1000000\": one above is not", GraphSentences::aboveFullArc);
+        all.add("3.11", "\"FULL\": changes nothing, and BAD is named before it", GraphSentences::fullArcChangesNothing);
     }
 
     private static void whatItHas() {
@@ -328,15 +329,15 @@ final class GraphEdges extends Edges {
     }
 
     private static void addParts(Sentences all) {
-        all.add("4.1", "\"K before\": of like K too", GraphEdges::partsBefore);
-        all.add("4.2", "\"K 2 ..\", \"BAD\": 2 is taken, 1 and below are not", GraphEdges::fewestParts);
-        all.add("4.3", "\".. 4\", \"BAD\": 4 is taken, 5 and above are not", GraphEdges::mostParts);
-        all.add("4.4", "\"PARTS 0 .. K - 1\": K - 1 is there, K is not", GraphEdges::lastPart);
-        all.add("4.5", "\"all NODES are in PART 0\": those of PARTS that go too", GraphEdges::allInPartZero);
-        all.add("4.6", "\"all BOUNDS as at first\": the least", GraphEdges::leastAsAtFirst);
-        all.add("4.7", "\"all BOUNDS as at first\": the most", GraphEdges::mostAsAtFirst);
-        all.add("4.8", "\"K from now on\": all of it with the same K too", GraphEdges::sameParts);
-        all.add("4.9", "\"BAD\": changes nothing", GraphEdges::badPartsChangeNothing);
+        all.add("4.1", "\"K before\": of like K too", GraphSentences::partsBefore);
+        all.add("4.2", "\"K 2 ..\", \"BAD\": 2 is taken, 1 and below are not", GraphSentences::fewestParts);
+        all.add("4.3", "\".. 4\", \"BAD\": 4 is taken, 5 and above are not", GraphSentences::mostParts);
+        all.add("4.4", "\"PARTS 0 .. K - 1\": K - 1 is there, K is not", GraphSentences::lastPart);
+        all.add("4.5", "\"all NODES are in PART 0\": those of PARTS that go too", GraphSentences::allInPartZero);
+        all.add("4.6", "\"all BOUNDS as at first\": the least", GraphSentences::leastAsAtFirst);
+        all.add("4.7", "\"all BOUNDS as at first\": the most", GraphSentences::mostAsAtFirst);
+        all.add("4.8", "\"K from now on\": all of it with the same K too", GraphSentences::sameParts);
+        all.add("4.9", "\"BAD\": changes nothing", GraphSentences::badPartsChangeNothing);
     }
 
     private static void partsBefore() {
@@ -427,14 +428,14 @@ final class GraphEdges extends Edges {
     }
 
     private static void addBound(Sentences all) {
-        all.add("5.1", "\"BOUNDS of a PART: 0\": both of this one and of no other", GraphEdges::boundsOfOne);
-        all.add("5.2", "\"(0 ..\", \"BAD\": 0 is taken, below is not", GraphEdges::leastBound);
-        all.add("5.3", "\".. 1000000)\", \"BAD\": 1000000 is taken, above is not", GraphEdges::mostBound);
-        all.add("5.4", "\"BAD (also least above most)\": one above", GraphEdges::leastAboveMost);
-        all.add("5.5", "\"BAD (also least above most)\": like ones are taken", GraphEdges::leastIsMost);
-        all.add("5.6", "\"BAD\": no such PART, K among them", GraphEdges::boundOfNoPart);
-        all.add("5.7", "\"BAD\": changes nothing", GraphEdges::badBoundChangesNothing);
-        all.add("5.8", "\"BOUNDS of a PART: 0\": a SPLIT that does not FIT them stays", GraphEdges::splitStays);
+        all.add("5.1", "\"BOUNDS of a PART: 0\": both of this one and of no other", GraphSentences::boundsOfOne);
+        all.add("5.2", "\"(0 ..\", \"BAD\": 0 is taken, below is not", GraphSentences::leastBound);
+        all.add("5.3", "\".. 1000000)\", \"BAD\": 1000000 is taken, above is not", GraphSentences::mostBound);
+        all.add("5.4", "\"BAD (also least above most)\": one above", GraphSentences::leastAboveMost);
+        all.add("5.5", "\"BAD (also least above most)\": like ones are taken", GraphSentences::leastIsMost);
+        all.add("5.6", "\"BAD\": no such PART, K among them", GraphSentences::boundOfNoPart);
+        all.add("5.7", "\"BAD\": changes nothing", GraphSentences::badBoundChangesNothing);
+        all.add("5.8", "\"BOUNDS of a PART: 0\": a SPLIT that does not FIT them stays", GraphSentences::splitStays);
     }
 
     private static void boundsOfOne() {
@@ -506,11 +507,11 @@ final class GraphEdges extends Edges {
     }
 
     private static void addPut(Sentences all) {
-        all.add("6.1", "\"the one before\": and the same PART again", GraphEdges::partBefore);
-        all.add("6.2", "\"BAD\": no such NODE", GraphEdges::putOfNoNode);
-        all.add("6.3", "\"BAD\": no such PART, K among them", GraphEdges::putIntoNoPart);
-        all.add("6.4", "\"BAD\": changes nothing", GraphEdges::badPutChangesNothing);
-        all.add("6.5", "\"A NODE comes to a PART\": one that is full all the same", GraphEdges::putIntoFullPart);
+        all.add("6.1", "\"the one before\": and the same PART again", GraphSentences::partBefore);
+        all.add("6.2", "\"BAD\": no such NODE", GraphSentences::putOfNoNode);
+        all.add("6.3", "\"BAD\": no such PART, K among them", GraphSentences::putIntoNoPart);
+        all.add("6.4", "\"BAD\": changes nothing", GraphSentences::badPutChangesNothing);
+        all.add("6.5", "\"A NODE comes to a PART\": one that is full all the same", GraphSentences::putIntoFullPart);
     }
 
     private static void partBefore() {
@@ -556,14 +557,14 @@ final class GraphEdges extends Edges {
     }
 
     private static void addClear(Sentences all) {
-        all.add("7.1", "\"how many NODES there were\": none, some, forty", GraphEdges::howManyWent);
-        all.add("7.2", "\"All goes\": forty NODES have room again", GraphEdges::roomAgain);
-        all.add("7.3", "\"All goes\": no ARC of before comes back", GraphEdges::noOldArc);
-        all.add("7.4", "\"(As a new object.)\": K 2", GraphEdges::clearedParts);
-        all.add("7.5", "\"(As a new object.)\": BOUNDS 0 .. 1000000", GraphEdges::clearedBounds);
-        all.add("7.6", "\"(As a new object.)\": NODES come to PART 0 again", GraphEdges::clearedSplit);
-        all.add("7.7", "\"(As a new object.)\": one LEVEL, without NODES", GraphEdges::clearedLevels);
-        all.add("7.8", "\"(As a new object.)\": all that can be seen", GraphEdges::clearedAll);
+        all.add("7.1", "\"how many NODES there were\": none, some, forty", GraphSentences::howManyWent);
+        all.add("7.2", "\"All goes\": forty NODES have room again", GraphSentences::roomAgain);
+        all.add("7.3", "\"All goes\": no ARC of before comes back", GraphSentences::noOldArc);
+        all.add("7.4", "\"(As a new object.)\": K 2", GraphSentences::clearedParts);
+        all.add("7.5", "\"(As a new object.)\": BOUNDS 0 .. 1000000", GraphSentences::clearedBounds);
+        all.add("7.6", "\"(As a new object.)\": NODES come to PART 0 again", GraphSentences::clearedSplit);
+        all.add("7.7", "\"(As a new object.)\": one LEVEL, without NODES", GraphSentences::clearedLevels);
+        all.add("7.8", "\"(As a new object.)\": all that can be seen", GraphSentences::clearedAll);
     }
 
     private static void howManyWent() {

@@ -1,7 +1,7 @@
 import java.util.List;
 
 /** Promises 20, 21, 23 and 24, and part 4 of the terms. */
-final class StreamEdges extends Edges {
+final class StreamSentences extends Looks {
     static void addTo(Sentences all) {
         addAlpha(all);
         addRoom(all);
@@ -12,11 +12,11 @@ final class StreamEdges extends Edges {
     }
 
     private static void addAlpha(Sentences all) {
-        all.add("20.1", "\"ALPHA 0 ..\", \"BAD\": 0 is taken, below is not", StreamEdges::leastAlpha);
-        all.add("20.2", "\".. 1000\", \"BAD\": 1000 is taken, above is not", StreamEdges::mostAlpha);
-        all.add("20.3", "\"BAD\": changes nothing", StreamEdges::badStreamChangesNothing);
-        all.add("20.4", "\"CUT\": though it does not FIT", StreamEdges::streamTellsCut);
-        all.add("20.5", "\"in the ORDER of a seed\": not by number", StreamEdges::streamInOrder);
+        all.add("20.1", "\"ALPHA 0 ..\", \"BAD\": 0 is taken, below is not", StreamSentences::leastAlpha);
+        all.add("20.2", "\".. 1000\", \"BAD\": 1000 is taken, above is not", StreamSentences::mostAlpha);
+        all.add("20.3", "\"BAD\": changes nothing", StreamSentences::badStreamChangesNothing);
+        all.add("20.4", "\"CUT\": though it does not FIT", StreamSentences::streamTellsCut);
+        all.add("20.5", "\"in the ORDER of a seed\": not by number", StreamSentences::streamInOrder);
     }
 
     private static void leastAlpha() {
@@ -62,23 +62,23 @@ final class StreamEdges extends Edges {
     private static void addRoom(Sentences all) {
         // The order of seed 0 is by number for two to four nodes.
         all.add("T4.1", "\"(the sum there with it is not above most)\": just at most there is room",
-                StreamEdges::justRoom);
+                StreamSentences::justRoom);
         all.add("T4.2", "\"(the sum there with it is not above most)\": one above there is none",
-                StreamEdges::justNoRoom);
+                StreamSentences::justNoRoom);
         all.add("T4.3", "\"that PART of those that have room\": one that draws more is passed over",
-                StreamEdges::drawnButFull);
+                StreamSentences::drawnButFull);
         all.add("T4.4", "\"1000 times .. less ALPHA times\": 1000 times 3 is like 1000 times 3",
-                StreamEdges::drawnAlike);
+                StreamSentences::drawnAlike);
         all.add("T4.5", "\"1000 times .. less ALPHA times .. is greatest\": one more weight drives off",
-                StreamEdges::drivenOff);
-        all.add("T4.6", "\"is greatest\": of those below 0 too", StreamEdges::allBelowZero);
-        all.add("T4.7", "\"the least of like ones\": of three", StreamEdges::leastOfLike);
+                StreamSentences::drivenOff);
+        all.add("T4.6", "\"is greatest\": of those below 0 too", StreamSentences::allBelowZero);
+        all.add("T4.7", "\"the least of like ones\": of three", StreamSentences::leastOfLike);
         all.add("T4.8", "\"its ARCS to NODES there\": of those that came by now, not of the SPLIT before",
-                StreamEdges::streamForgets);
+                StreamSentences::streamForgets);
         all.add("T4.9", "\"if none has room, the PART with the least sum\": whatever draws",
-                StreamEdges::noneHasRoom);
-        all.add("T4.10", "\"the PART with the least sum (the least of like ones)\"", StreamEdges::leastOfLikeSums);
-        all.add("T4.11", "\"that have room for it\": least is not looked at", StreamEdges::leastIsNoRoom);
+                StreamSentences::noneHasRoom);
+        all.add("T4.10", "\"the PART with the least sum (the least of like ones)\"", StreamSentences::leastOfLikeSums);
+        all.add("T4.11", "\"that have room for it\": least is not looked at", StreamSentences::leastIsNoRoom);
     }
 
     private static void justRoom() {
@@ -167,17 +167,17 @@ final class StreamEdges extends Edges {
     }
 
     private static void addOrder(Sentences all) {
-        all.add("21.1", "\"NODE i\": the first and the last", StreamEdges::orderEnds);
-        all.add("21.2", "\"NONE\": behind the last", StreamEdges::orderBehind);
-        all.add("21.3", "\"NONE\": below 0", StreamEdges::orderBelow);
-        all.add("21.4", "\"NODE i of the ORDER\": each NODE comes once, of forty", StreamEdges::eachOnce);
-        all.add("21.5", "\"of one NODE\": it is the ORDER", StreamEdges::orderOfOne);
-        all.add("T4.12", "\"x becomes x * 1103515245 + 12345 (32 bits)\": wraps around", StreamEdges::wraps);
-        all.add("T4.13", "\"(bits 16 to 30)\": bit 31 is none of them", StreamEdges::highestBit);
-        all.add("T4.14", "\"(bits 16 to 30)\": bit 15 is none of them, bit 16 is", StreamEdges::lowestBit);
-        all.add("T4.15", "\"modulo how many are left\"", StreamEdges::howManyLeft);
-        all.add("T4.16", "\"and goes from there\": the others stay in order", StreamEdges::othersStay);
-        all.add("T4.17", "\"by seed\": the least and the greatest", StreamEdges::seedEdges);
+        all.add("21.1", "\"NODE i\": the first and the last", StreamSentences::orderEnds);
+        all.add("21.2", "\"NONE\": behind the last", StreamSentences::orderBehind);
+        all.add("21.3", "\"NONE\": below 0", StreamSentences::orderBelow);
+        all.add("21.4", "\"NODE i of the ORDER\": each NODE comes once, of forty", StreamSentences::eachOnce);
+        all.add("21.5", "\"of one NODE\": it is the ORDER", StreamSentences::orderOfOne);
+        all.add("T4.12", "\"x becomes x * 1103515245 + 12345 (32 bits)\": wraps around", StreamSentences::wraps);
+        all.add("T4.13", "\"(bits 16 to 30)\": bit 31 is none of them", StreamSentences::highestBit);
+        all.add("T4.14", "\"(bits 16 to 30)\": bit 15 is none of them, bit 16 is", StreamSentences::lowestBit);
+        all.add("T4.15", "\"modulo how many are left\"", StreamSentences::howManyLeft);
+        all.add("T4.16", "\"and goes from there\": the others stay in order", StreamSentences::othersStay);
+        all.add("T4.17", "\"by seed\": the least and the greatest", StreamSentences::seedEdges);
     }
 
     private static void dueOrder(BalancedSplits x, int seed, int... want) {
@@ -257,10 +257,10 @@ final class StreamEdges extends Edges {
     }
 
     private static void addSeparator(Sentences all) {
-        all.add("23.1", "\"NONE\": of an empty SEPARATOR", StreamEdges::emptySeparator);
-        all.add("23.2", "\"NONE\": behind the last", StreamEdges::behindSeparator);
-        all.add("23.3", "\"NONE\": below 0", StreamEdges::belowSeparator);
-        all.add("23.4", "\"NODE i of the SEPARATOR, rising\": not as they came", StreamEdges::risingSeparator);
+        all.add("23.1", "\"NONE\": of an empty SEPARATOR", StreamSentences::emptySeparator);
+        all.add("23.2", "\"NONE\": behind the last", StreamSentences::behindSeparator);
+        all.add("23.3", "\"NONE\": below 0", StreamSentences::belowSeparator);
+        all.add("23.4", "\"NODE i of the SEPARATOR, rising\": not as they came", StreamSentences::risingSeparator);
     }
 
     private static void emptySeparator() {
@@ -300,16 +300,16 @@ final class StreamEdges extends Edges {
 
     private static void addSeparatorMade(Sentences all) {
         all.add("T4.18", "\"some ARC between unlike PARTS\": those within a PART do not count",
-                StreamEdges::withinPart);
+                StreamSentences::withinPart);
         all.add("T4.19", "\"the NODE that ends most such ARCS\": how many, not their WEIGHTS",
-                StreamEdges::mostArcs);
-        all.add("T4.20", "\"(of like ones that of less WEIGHT\"", StreamEdges::lighterEnd);
-        all.add("T4.21", "\"then the least)\"", StreamEdges::leastEnd);
+                StreamSentences::mostArcs);
+        all.add("T4.20", "\"(of like ones that of less WEIGHT\"", StreamSentences::lighterEnd);
+        all.add("T4.21", "\"then the least)\"", StreamSentences::leastEnd);
         all.add("T4.22", "\"has neither end in it\", \"most such ARCS\": those with an end in it count no more",
-                StreamEdges::heldArcs);
+                StreamSentences::heldArcs);
         all.add("T4.23", "\"each goes out again, if all such ARCS have an end in it all the same\"",
-                StreamEdges::goesOut);
-        all.add("T4.24", "\"Then, by falling number\"", StreamEdges::fallingNumber);
+                StreamSentences::goesOut);
+        all.add("T4.24", "\"Then, by falling number\"", StreamSentences::fallingNumber);
     }
 
     private static void dueSeparator(BalancedSplits x, int... want) {
@@ -363,14 +363,14 @@ final class StreamEdges extends Edges {
     }
 
     private static void addCount(Sentences all) {
-        all.add("24.1", "\"BAD\": what below 0", StreamEdges::countBelow);
-        all.add("24.2", "\"BAD\": what above 5", StreamEdges::countAbove);
-        all.add("24.3", "\"How many NODES (0)\": from none to forty", StreamEdges::countNodes);
-        all.add("24.4", "\"K (1)\": 2 to 4", StreamEdges::countParts);
-        all.add("24.5", "\"ARCS (2)\": none, one told twice, all of twenty-eight NODES", StreamEdges::countArcs);
-        all.add("24.6", "\"LEVELS (3)\": the first counts, also without NODES", StreamEdges::countLevels);
-        all.add("24.7", "\"NODES in the SEPARATOR (4)\": none, and twenty of forty", StreamEdges::countSeparator);
-        all.add("24.8", "\"the sum of VOLUMES (5)\": none, and the most of four NODES", StreamEdges::countVolumes);
+        all.add("24.1", "\"BAD\": what below 0", StreamSentences::countBelow);
+        all.add("24.2", "\"BAD\": what above 5", StreamSentences::countAbove);
+        all.add("24.3", "\"How many NODES (0)\": from none to forty", StreamSentences::countNodes);
+        all.add("24.4", "\"K (1)\": 2 to 4", StreamSentences::countParts);
+        all.add("24.5", "\"ARCS (2)\": none, one told twice, all of twenty-eight NODES", StreamSentences::countArcs);
+        all.add("24.6", "\"LEVELS (3)\": the first counts, also without NODES", StreamSentences::countLevels);
+        all.add("24.7", "\"NODES in the SEPARATOR (4)\": none, and twenty of forty", StreamSentences::countSeparator);
+        all.add("24.8", "\"the sum of VOLUMES (5)\": none, and the most of four NODES", StreamSentences::countVolumes);
     }
 
     private static void countBelow() {

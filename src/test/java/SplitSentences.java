@@ -1,7 +1,7 @@
 import java.util.List;
 
 /** Promises 8 to 13, and what part 1 of the terms says of CUT, OVER, GAIN and VOLUME. */
-final class SplitEdges extends Edges {
+final class SplitSentences extends Looks {
     static void addTo(Sentences all) {
         addOf(all);
         addBetween(all);
@@ -12,22 +12,22 @@ final class SplitEdges extends Edges {
     }
 
     private static void addOf(Sentences all) {
-        all.add("8.1", "\"BAD\": no such NODE, whatever is asked", SplitEdges::ofNoNode);
-        all.add("8.2", "\"BAD\": what below 0", SplitEdges::ofBelow);
-        all.add("8.3", "\"BAD\": what above 3", SplitEdges::ofAbove);
-        all.add("8.4", "\"WEIGHT of a NODE (what = 0)\": the least and the most", SplitEdges::weights);
-        all.add("8.5", "\"its PART (1)\": the first and the last", SplitEdges::parts);
-        all.add("8.6", "\"VOLUME\", \"PARTS but its own\": its own does not count", SplitEdges::volumeInside);
-        all.add("8.7", "\"VOLUME: how many PARTS\": one counts once", SplitEdges::volumeOnce);
+        all.add("8.1", "\"BAD\": no such NODE, whatever is asked", SplitSentences::ofNoNode);
+        all.add("8.2", "\"BAD\": what below 0", SplitSentences::ofBelow);
+        all.add("8.3", "\"BAD\": what above 3", SplitSentences::ofAbove);
+        all.add("8.4", "\"WEIGHT of a NODE (what = 0)\": the least and the most", SplitSentences::weights);
+        all.add("8.5", "\"its PART (1)\": the first and the last", SplitSentences::parts);
+        all.add("8.6", "\"VOLUME\", \"PARTS but its own\": its own does not count", SplitSentences::volumeInside);
+        all.add("8.7", "\"VOLUME: how many PARTS\": one counts once", SplitSentences::volumeOnce);
         all.add("8.8", "\"VOLUME\", \"its neighbours (by ARCS)\": 0 without any, 1 by the least ARC",
-                SplitEdges::volumeAlone);
-        all.add("8.9", "\"VOLUME: how many PARTS\": K - 1 at most", SplitEdges::volumeMost);
-        all.add("8.10", "\"how many neighbours (3)\": none", SplitEdges::noNeighbours);
-        all.add("8.11", "\"how many neighbours (3)\": thirty-nine", SplitEdges::allNeighbours);
+                SplitSentences::volumeAlone);
+        all.add("8.9", "\"VOLUME: how many PARTS\": K - 1 at most", SplitSentences::volumeMost);
+        all.add("8.10", "\"how many neighbours (3)\": none", SplitSentences::noNeighbours);
+        all.add("8.11", "\"how many neighbours (3)\": thirty-nine", SplitSentences::allNeighbours);
         all.add("8.12", "\"how many neighbours (3)\": one told again, of any PART, counts once",
-                SplitEdges::neighbourOnce);
+                SplitSentences::neighbourOnce);
         all.add("8.13", "\"BAD\", and \"NONE\": a refused question, of this and of the calls below, changes nothing",
-                SplitEdges::refusedQuestions);
+                SplitSentences::refusedQuestions);
     }
 
     private static void refusedQuestions() {
@@ -139,10 +139,10 @@ final class SplitEdges extends Edges {
     }
 
     private static void addBetween(Sentences all) {
-        all.add("9.1", "\"0 without one\": and from a NODE to itself", SplitEdges::withoutArc);
-        all.add("9.2", "\"BAD: no such NODE\": the first", SplitEdges::betweenNoFirst);
-        all.add("9.3", "\"BAD: no such NODE\": the second", SplitEdges::betweenNoSecond);
-        all.add("9.4", "\"between two NODES\": from either end", SplitEdges::eitherEnd);
+        all.add("9.1", "\"0 without one\": and from a NODE to itself", SplitSentences::withoutArc);
+        all.add("9.2", "\"BAD: no such NODE\": the first", SplitSentences::betweenNoFirst);
+        all.add("9.3", "\"BAD: no such NODE\": the second", SplitSentences::betweenNoSecond);
+        all.add("9.4", "\"between two NODES\": from either end", SplitSentences::eitherEnd);
     }
 
     private static void withoutArc() {
@@ -174,13 +174,13 @@ final class SplitEdges extends Edges {
     }
 
     private static void addPart(Sentences all) {
-        all.add("10.1", "\"BAD\": no such PART, K among them", SplitEdges::ofNoPart);
-        all.add("10.2", "\"BAD\": what below 0", SplitEdges::partBelow);
-        all.add("10.3", "\"BAD\": what above 3", SplitEdges::partAbove);
+        all.add("10.1", "\"BAD\": no such PART, K among them", SplitSentences::ofNoPart);
+        all.add("10.2", "\"BAD\": what below 0", SplitSentences::partBelow);
+        all.add("10.3", "\"BAD\": what above 3", SplitSentences::partAbove);
         all.add("10.4", "\"The sum of WEIGHTS in a PART (what = 0)\": of none, and the most there can be",
-                SplitEdges::sums);
-        all.add("10.5", "\"how many NODES (1)\": none, and forty", SplitEdges::nodesThere);
-        all.add("10.6", "\"least (2), most (3)\": at their edges", SplitEdges::boundsThere);
+                SplitSentences::sums);
+        all.add("10.5", "\"how many NODES (1)\": none, and forty", SplitSentences::nodesThere);
+        all.add("10.6", "\"least (2), most (3)\": at their edges", SplitSentences::boundsThere);
     }
 
     private static void ofNoPart() {
@@ -244,10 +244,10 @@ final class SplitEdges extends Edges {
     }
 
     private static void addCut(Sentences all) {
-        all.add("11.1", "\"ARCS between NODES of unlike PARTS\": none, if all are in one", SplitEdges::nothingCut);
-        all.add("11.2", "\"ARCS between NODES of unlike PARTS\": all, if each is in its own", SplitEdges::allCut);
-        all.add("11.3", "\"the sum of ARCS\": each counts once, with what it has by now", SplitEdges::cutOnce);
-        all.add("11.4", "\"CUT\": telling it changes nothing", SplitEdges::tellingChangesNothing);
+        all.add("11.1", "\"ARCS between NODES of unlike PARTS\": none, if all are in one", SplitSentences::nothingCut);
+        all.add("11.2", "\"ARCS between NODES of unlike PARTS\": all, if each is in its own", SplitSentences::allCut);
+        all.add("11.3", "\"the sum of ARCS\": each counts once, with what it has by now", SplitSentences::cutOnce);
+        all.add("11.4", "\"CUT\": telling it changes nothing", SplitSentences::tellingChangesNothing);
     }
 
     private static void nothingCut() {
@@ -291,11 +291,11 @@ final class SplitEdges extends Edges {
     }
 
     private static void addOver(Sentences all) {
-        all.add("12.1", "\"below least\": at least it is 0, one below it is 1", SplitEdges::atLeast);
-        all.add("12.2", "\"above most\": at most it is 0, one above it is 1", SplitEdges::atMost);
-        all.add("12.3", "\"the sum, over PARTS\": of both kinds, of all PARTS", SplitEdges::overAllParts);
-        all.add("12.4", "\"of how far .. is below least\": of a PART without NODES", SplitEdges::emptyPart);
-        all.add("12.5", "\"OVER\": the most there can be", SplitEdges::mostOver);
+        all.add("12.1", "\"below least\": at least it is 0, one below it is 1", SplitSentences::atLeast);
+        all.add("12.2", "\"above most\": at most it is 0, one above it is 1", SplitSentences::atMost);
+        all.add("12.3", "\"the sum, over PARTS\": of both kinds, of all PARTS", SplitSentences::overAllParts);
+        all.add("12.4", "\"of how far .. is below least\": of a PART without NODES", SplitSentences::emptyPart);
+        all.add("12.5", "\"OVER\": the most there can be", SplitSentences::mostOver);
     }
 
     private static void atLeast() {
@@ -351,12 +351,13 @@ final class SplitEdges extends Edges {
     }
 
     private static void addGain(Sentences all) {
-        all.add("13.1", "\"(0 for its own)\"", SplitEdges::gainOfOwn);
-        all.add("13.2", "\"by how much CUT would be less\": below 0, if it would be more", SplitEdges::loss);
-        all.add("13.3", "\"by how much CUT would be less\": ARCS to third PARTS do not count", SplitEdges::thirdPart);
-        all.add("13.4", "\"BAD: - 100000000\": no such NODE", SplitEdges::gainOfNoNode);
-        all.add("13.5", "\"BAD: - 100000000\": no such PART, K among them", SplitEdges::gainOfNoPart);
-        all.add("13.6", "\"if it were there\": it is not moved", SplitEdges::gainMovesNothing);
+        all.add("13.1", "\"(0 for its own)\"", SplitSentences::gainOfOwn);
+        all.add("13.2", "\"by how much CUT would be less\": below 0, if it would be more", SplitSentences::loss);
+        all.add("13.3", "\"by how much CUT would be less\": ARCS to third PARTS do not count",
+                SplitSentences::thirdPart);
+        all.add("13.4", "\"BAD: - 100000000\": no such NODE", SplitSentences::gainOfNoNode);
+        all.add("13.5", "\"BAD: - 100000000\": no such PART, K among them", SplitSentences::gainOfNoPart);
+        all.add("13.6", "\"if it were there\": it is not moved", SplitSentences::gainMovesNothing);
     }
 
     private static void gainOfOwn() {
